@@ -1,0 +1,53 @@
+/** Counts what is as it is due and what is not; each test ends with finish(). */
+final class Check {
+    static final Class<IllegalArgumentException> ARGUMENT = IllegalArgumentException.class;
+    static final Class<IllegalStateException> STATE = IllegalStateException.class;
+    static final Class<IndexOutOfBoundsException> INDEX = IndexOutOfBoundsException.class;
+
+    private static int right = 0;
+    private static int wrong = 0;
+
+    interface Call {
+        void run();
+    }
+
+    private Check() {
+    }
+
+    static void due(String what, long got, long want) {
+        note(got == want, what, String.valueOf(got), String.valueOf(want));
+    }
+
+    static void due(String what, boolean got, boolean want) {
+        note(got == want, what, String.valueOf(got), String.valueOf(want));
+    }
+
+    static void due(String what, String got, String want) {
+        note(got.equals(want), what, got, want);
+    }
+
+    /** The very class counts, since the machine's own exceptions are of classes below it. */
+    static void refuses(String what, Class<? extends RuntimeException> want, Call call) {
+        String got = "nothing thrown";
+        try {
+            call.run();
+        } catch (RuntimeException e) {
+            got = e.getClass().getName();
+        }
+        note(got.equals(want.getName()), what, got, want.getName());
+    }
+
+    private static void note(boolean isRight, String what, String got, String want) {
+        if (isRight) {
+            right++;
+        } else {
+            wrong++;
+            System.out.println(what + ": got " + got + ", due is " + want);
+        }
+    }
+
+    static void finish(String test) {
+        System.out.println(test + ": " + right + " checks right, " + wrong + " wrong");
+        System.exit(wrong == 0 ? 0 : 1);
+    }
+}

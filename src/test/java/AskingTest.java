@@ -68,5 +68,7 @@ public final class AskingTest {
         x.leave(0);
         Check.due("26: as many are in", x.ofTroop(1, false), 2);
         Check.due("26: one comes in", x.ofTroop(1, true), 1);
+        x.join(0, 1);
+        Check.due("26: who left waits too", x.ofTroop(1, true), 2);
     }
 }

@@ -26,13 +26,15 @@ final class Check {
         note(got.equals(want), what, got, want);
     }
 
-    /** The very class counts, since the machine's own exceptions are of classes below it. */
+    /** The very class counts, and who throws it, since neither the machine nor the library is to throw. */
     static void refuses(String what, Class<? extends RuntimeException> want, Call call) {
         String got = "nothing thrown";
         try {
             call.run();
         } catch (RuntimeException e) {
-            got = e.getClass().getName();
+            StackTraceElement[] trace = e.getStackTrace();
+            boolean isOwn = trace.length > 0 && trace[0].getClassName().startsWith("Badgewood");
+            got = isOwn ? e.getClass().getName() : e.getClass().getName() + " not by a throw of the class";
         }
         note(got.equals(want.getName()), what, got, want.getName());
     }

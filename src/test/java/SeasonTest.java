@@ -8,6 +8,7 @@ public final class SeasonTest {
         byRisingNumbers();
         allLeaveAheadOfComingIn();
         waitersAreNotCounted();
+        asManyAsThereIsRoomFor();
         Check.finish("SeasonTest");
     }
 
@@ -150,5 +151,25 @@ public final class SeasonTest {
         Check.due("9: who waited is not let in", x.ofChild(1, 1), -1);
         Check.due("26: none is in", x.ofTroop(0, false), 0);
         Check.due("26: none waits", x.ofTroop(0, true), 0);
+    }
+
+    private static void asManyAsThereIsRoomFor() {
+        Badgewood x = new Badgewood();
+        x.troop(5, 8, 3);
+        int[] ages = {6, 7, 5, 8, 8, 7};
+        for (int age : ages) {
+            x.child(age);
+        }
+        int[] order = {4, 3, 1, 5, 0, 2};
+        for (int child : order) {
+            x.join(child, 0);
+        }
+        Check.due("26: three wait", x.ofTroop(0, true), 3);
+        Check.due("9: two leave", x.season(), 2);
+        Check.due("9: two come in", x.ofTroop(0, false), 3);
+        Check.due("9: the last still waits", x.ofChild(2, 2), 0);
+        Check.due("9: the first of them", x.ofChild(5, 3), 0);
+        Check.due("9: the second of them", x.ofChild(0, 3), 1);
+        Check.due("9: who stays keeps the patrol", x.ofChild(1, 3), 2);
     }
 }

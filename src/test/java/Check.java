@@ -6,12 +6,23 @@ final class Check {
 
     private static int right = 0;
     private static int wrong = 0;
+    private static String about = "";
 
     interface Call {
         void run();
     }
 
     private Check() {
+    }
+
+    /** What the next checks are about; it goes ahead of what each of them says. */
+    static void about(String words) {
+        about = words;
+    }
+
+    /** How many checks were made by now. */
+    static int made() {
+        return right + wrong;
     }
 
     static void due(String what, long got, long want) {
@@ -44,7 +55,7 @@ final class Check {
             right++;
         } else {
             wrong++;
-            System.out.println(what + ": got " + got + ", due is " + want);
+            System.out.println(about + what + ": got " + got + ", due is " + want);
         }
     }
 

@@ -130,13 +130,17 @@ public final class ModelTest {
                 int from = Math.max(0, today - dice.below(20));
                 return new int[] {leader, dice.below(3), from, Math.min(9999, from + dice.below(400))};
             }
-            case 10: return new int[] {leader, dice.from(1, 3), dice.oneIn(6) ? -1 : Math.min(9999, today + dice.below(90))};
+            case 10: {
+                int till = dice.oneIn(6) ? -1 : Math.min(9999, today + dice.below(90));
+                return new int[] {leader, dice.from(1, 3), till};
+            }
             case 11: return new int[] {leader, 0xFFFF & ~set(dice)};
             case 12: return edition(dice);
             case 14: return new int[] {child, dice.below(16), leader};
             case 15: {
                 int hour = dice.from(8, 20);
-                return new int[] {troop, dice.below(2), dice.below(4), soon, hour, dice.from(1, Math.min(4, 24 - hour))};
+                int hours = dice.from(1, Math.min(4, 24 - hour));
+                return new int[] {troop, dice.below(2), dice.below(4), soon, hour, hours};
             }
             case 16: return new int[] {dice.below(20), leader, dice.oneIn(4) ? 0 : 1};
             case 17: return new int[] {dice.below(20)};

@@ -475,10 +475,8 @@ final class EventSentences {
         });
         doc.says("`hour`: 0 to 23", () -> {
             Edges.range(Check.ARGUMENT, 0, 23, Starts::camp, (x, hour) -> x.couldStaff(15, hour, 1));
-            boolean[] due = new boolean[24];
             for (int hour = 0; hour < 24; hour++) {
-                due[hour] = hour < 20;
-                Check.due("the hour " + hour, Starts.camp().couldStaff(15, hour, 0), due[hour]);
+                Check.due("the hour " + hour, Starts.camp().couldStaff(15, hour, 0), hour < 20);
             }
         });
         doc.says("`them`: the leaders, as a set", () -> {
@@ -504,7 +502,6 @@ final class EventSentences {
 
     private static void couldBeLawful() {
         Badgewood x = Starts.camp();
-        x.vet(1, 0, 0, 20);
         Check.due("in the hour of the first alone", x.couldStaff(12, 9, 1), true);
         Check.due("by another than who was told for it", x.couldStaff(12, 9, 8), true);
         Check.due("both in an hour, each with one", x.couldStaff(12, 11, 0b1001), true);
